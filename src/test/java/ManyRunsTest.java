@@ -7,6 +7,8 @@ import java.util.TreeMap;
 final class ManyRunsTest {
   private static final int RUNS = 500;
   private static final int CALLS = 512;
+  private static final String[] DEAR = {"plan", "till", "mean", "atOnce", "chain", "takings", "worth", "fete", "purse",
+    "says", "bestPrice"};
   private static final String[] WORDS = {"slips", "rule", "price", "thing", "buyer", "likes", "out", "five", ";", "x", " "};
 
   private ManyRunsTest() {
@@ -45,22 +47,90 @@ final class ManyRunsTest {
     }
 
     void make() throws ReflectiveOperationException {
-      call("slips", isGreat ? 11 + random.nextInt(50) : 1 + random.nextInt(10));
-      call("rule", 2 + random.nextInt(isGreat ? 9 : 3));
-      call("price", 0, 1 + random.nextInt(number % 3 == 0 ? 99 : 20));
-      tell();
+      setUp();
       while (calls < CALLS && !isWrong) {
         String name = names[random.nextInt(names.length)];
-        if (name.equals("feed") && random.nextInt(6) == 0) {
+        boolean isRare = name.equals("back") || name.equals("go") || name.equals("five") || name.equals("plays");
+        if (isRare && random.nextInt(3) != 0) {
+          name = DEAR[random.nextInt(DEAR.length)];
+        }
+        if (name.equals("feed") && random.nextInt(4) == 0) {
           tell();
         } else if (name.equals("row") && random.nextInt(2) == 0) {
           tellBook();
         } else if ((name.equals("slips") || name.equals("rule")) && (isGreat || random.nextInt(4) != 0)) {
-          call("buyer", random.nextInt(10100) - 50);
+          call("fete", random.nextInt(1001));
         } else {
           call(name, arguments(name));
         }
       }
+    }
+
+    /** Most runs start with a full stall; some with next to nothing. */
+    private void setUp() throws ReflectiveOperationException {
+      call("slips", isGreat ? 11 + random.nextInt(50) : 1 + random.nextInt(10));
+      int rule = isGreat ? 2 + random.nextInt(9) : 2 + random.nextInt(2);
+      call("rule", rule);
+      call("price", 0, 1 + random.nextInt(number % 3 == 0 ? 99 : 20));
+      if (number % 7 == 0) {
+        return;
+      }
+      if (number % 5 == 0) {
+        setUpHeld();
+        return;
+      }
+      int buyers = 1 + random.nextInt(4);
+      int things = 1 + random.nextInt(8);
+      for (int b = 0; b < buyers; b++) {
+        call("buyer", random.nextInt(10000) / (random.nextBoolean() ? 1 : 50));
+      }
+      for (int t = 0; t < things; t++) {
+        call("thing", random.nextInt(6), (t + 1) * rule, random.nextInt(10) / (1 + random.nextInt(5)));
+      }
+      for (int b = 0; b < buyers; b++) {
+        for (int t = 0; t < x.status(4); t++) {
+          call("likes", b, t, random.nextInt(1000) / (1 + random.nextInt(30)));
+        }
+      }
+      call("image");
+    }
+
+    /** A stall in which a plan can turn to 0 behind some blanks, as ever more slips come free that no one likes. */
+    private void setUpHeld() throws ReflectiveOperationException {
+      call("slips", 16 + random.nextInt(2));
+      call("rule", 2);
+      call("price", 0, 1);
+      call("buyer", 900);
+      for (int t = 0; t < 8; t++) {
+        boolean isPlain = t == 0;
+        call("thing", isPlain ? 0 : 4, 2 * t + 2, isPlain || random.nextInt(5) != 0 ? 1 : 2);
+        call("likes", 0, t, isPlain ? 2 + random.nextInt(4) : random.nextInt(20) / 19);
+      }
+      call("row", 7, 0, 6);
+      for (int i = 0; i < 6; i++) {
+        call("set", 7, i, 2 * i + 1);
+      }
+      call("image");
+      for (int n = 1; n <= 6; n++) {
+        call("back");
+        call("booked", 7, n, 0);
+        call("fete", 0);
+        call("back");
+        for (int i = 0; i < n + 3; i++) {
+          tellOut(2 * i + 1);
+        }
+        call("plan", 0);
+        call("till", 0);
+      }
+    }
+
+    private void tellOut(int slip) throws ReflectiveOperationException {
+      call("wipe");
+      String text = "out" + slip;
+      for (int i = 0; i < text.length(); i++) {
+        call("feed", text.charAt(i));
+      }
+      call("stall");
     }
 
     private void call(String name, long... w) throws ReflectiveOperationException {
@@ -97,11 +167,11 @@ final class ManyRunsTest {
     }
 
     private int someone() {
-      return near(0, 2);
+      return near(0, Math.max(0, x.status(6) - 1));
     }
 
     private int something() {
-      return near(0, 5);
+      return near(0, Math.max(0, x.status(4) - 1));
     }
 
     private int someSlip() {
@@ -119,7 +189,7 @@ final class ManyRunsTest {
         case "element":
           return new long[] {near(0, 7), near(0, 40)};
         case "show":
-          return new long[] {near(0, 7), near(-1, 6)};
+          return new long[] {near(0, 7), random.nextInt(5) == 0 ? -1 : something()};
         case "says":
           return new long[] {near(0, 7), near(0, 5)};
         case "slips":
@@ -149,7 +219,7 @@ final class ManyRunsTest {
         case "mean":
           return new long[] {someone(), near(0, 8)};
         case "takings":
-          return new long[] {near(1, 99)};
+          return new long[] {random.nextBoolean() ? near(1, 99) : near(1, 12)};
         case "guess":
           return new long[] {near(0, 4), near(0, 1)};
         case "suspect":
@@ -169,7 +239,7 @@ final class ManyRunsTest {
         case "holds":
           return new long[] {near(0, 7)};
         case "fete":
-          return new long[] {near(0, 1000)};
+          return new long[] {random.nextBoolean() ? 1000 : near(0, 1000)};
         case "seed":
           return new long[] {random.nextInt()};
         case "status":
@@ -191,12 +261,17 @@ final class ManyRunsTest {
       }
       call("judge", s, n);
       call("won", s, n);
-      call("booked", s, n, someone());
+      if (random.nextInt(3) == 0) {
+        call("booked", s, n, someone());
+      }
     }
 
     private void tell() throws ReflectiveOperationException {
+      if (random.nextInt(5) != 0) {
+        call("wipe");
+      }
       StringBuilder text = new StringBuilder();
-      int count = 1 + random.nextInt(6);
+      int count = 1 + random.nextInt(4);
       for (int k = 0; k < count; k++) {
         text.append(k == 0 ? "" : ";");
         statement(text);
@@ -212,7 +287,7 @@ final class ManyRunsTest {
 
     private void statement(StringBuilder text) {
       int rule = Math.max(1, x.status(1));
-      switch (random.nextInt(12)) {
+      switch (x.status(4) > 0 && random.nextInt(9) != 0 ? 2 + random.nextInt(10) : random.nextInt(12)) {
         case 0:
           text.append("slips ").append(near(1, 60) & 63);
           break;
@@ -228,7 +303,7 @@ final class ManyRunsTest {
           break;
         case 5:
         case 6:
-          text.append("likes ").append(random.nextInt(3)).append(' ').append(random.nextInt(4)).append(' ')
+          text.append("likes ").append(someone() & 7).append(' ').append(something() & 15).append(' ')
               .append(random.nextInt(1000));
           break;
         case 7:

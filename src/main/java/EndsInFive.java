@@ -880,15 +880,15 @@ public final class EndsInFive {
         }
 
         boolean isSlip(int slip) {
-            return isWithin(slip, 1, slips);
+            return slip >= 1 && slip <= slips;
         }
 
         boolean isThing(int thing) {
-            return isWithin(thing, 0, things - 1);
+            return thing >= 0 && thing < things;
         }
 
         boolean isBuyer(int buyer) {
-            return isWithin(buyer, 0, buyers - 1);
+            return buyer >= 0 && buyer < buyers;
         }
 
         // -- slips
@@ -1209,7 +1209,6 @@ public final class EndsInFive {
         }
 
         void weigh(Stall stall, int buyer) {
-            joys[0] = 0;
             for (int t = 0; t < MOST_THINGS; t++) {
                 int first = 1 << t;
                 int joy = 1000 * stall.liking(buyer, t);

@@ -50,7 +50,9 @@ final class ShelfTest {
       Due.is("2: all elements are 0", x.element(sort, 39), 0);
     }
     x.set(0, 3, 7);
+    x.set(0, 0, 7);
     Due.is("2: a new row", x.row(0, 0, 40), 1);
+    Due.is("2: its first is 0 again", x.element(0, 0), 0);
     Due.is("2: its elements are 0 again", x.element(0, 3), 0);
     x.set(0, 39, 9);
     x.row(0, 3, 2);
@@ -257,6 +259,10 @@ final class ShelfTest {
     Due.told(x, "8: held waits no more", () -> x.says(0, 4), 0);
     Due.told(x, "8: sunk waits as held", () -> x.says(1, 4), 1);
     Due.told(x, "8: sunk: none", () -> x.says(1, 5), 0);
+    Due.book(x, 7, 0, 2);
+    x.booked(7, 1, 0);
+    Due.told(x, "8: sunk: none, with one of five in", () -> x.says(1, 5), 0);
+    Due.told(x, "8: held waits no more, long since", () -> x.says(0, 4), 0);
     EndsInFive y = Due.stall("slips 4;rule 2;thing 5 4 0;buyer 99");
     y.show(0, 0);
     Due.told(y, "8: sunk: two of four", () -> y.says(0, 5), 2);

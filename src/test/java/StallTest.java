@@ -242,6 +242,8 @@ final class StallTest {
     Due.is("18: purse", x.buyerOf(0, 0), 9999);
     Due.is("18: likes", Due.read(x, "likes 0 0 999"), 1);
     Due.is("18: likes", x.thingOf(0, 10), 999);
+    Due.is("18: likes no more", Due.read(x, "likes 0 0 0"), 1);
+    Due.is("18: by 0", x.thingOf(0, 10), 0);
     Due.is("18: out once more", Due.read(x, "out 10"), 1);
   }
 
@@ -276,6 +278,9 @@ final class StallTest {
     fault("slip 5", 0);
     fault("slipss 5", 0);
     fault("Slips 5", 0);
+    fault("blips 5", 0);
+    fault("rulez 5", 0);
+    fault("rulea 5", 0);
     fault("five 5", 0);
     fault("5", 0);
     fault(";", 0);
@@ -352,6 +357,8 @@ final class StallTest {
     fault("thing 0", 7);
     fault("thing", 5);
     fault("likes", 5);
+    fault("buyer 0;thing 0 3 0;likes 0", 27);
+    fault("buyer 0;thing 0 3 0;likes 0 0", 29);
     fault("out", 3);
     fault("slips", 5);
     fault("rule", 4);

@@ -99,6 +99,8 @@ final class ThoughtTest {
     Due.told(x, "24: 200 and 207 by 18", () -> x.worth(0), 407000 / 18);
     EndsInFive y = Due.stall("slips 2;rule 2;thing 4 2 9;buyer 9;likes 0 0 9;out 1");
     Due.told(y, "24: none can be drawn", () -> y.worth(0), 0);
+    EndsInFive z = Due.stall("slips 2;rule 2;thing 0 2 0;buyer 9;likes 0 0 9;out 1");
+    Due.told(z, "24: one alone", () -> z.worth(0), 9000);
     for (int bad : new int[] {-1, 2, MIN, MAX}) {
       Due.refused(x, "24: buyer " + bad, () -> x.worth(bad), -2);
     }
@@ -132,6 +134,20 @@ final class ThoughtTest {
       Due.refused(x, "25: buyer " + bad, () -> x.plan(bad), -2);
     }
     planOfWhisky();
+    planOfMany();
+  }
+
+  private static void planOfMany() {
+    EndsInFive x = Due.stall("slips 60;rule 10;price 1;thing 0 60 0;buyer 0;likes 0 0 999");
+    Due.told(x, "25: one of sixty", () -> x.plan(0), 999000 - 30500);
+    Due.told(x, "26: never, of sixty", () -> x.till(0), 60);
+    Due.told(x, "40: a chain between", () -> x.chain(0), 1);
+    Due.told(x, "25: the same behind a chain", () -> x.plan(0), 999000 - 30500);
+    Due.told(x, "28: a mean behind a plan", () -> x.mean(0, 1), 16650);
+    EndsInFive y = Due.stall("slips 10;rule 2;price 3;buyer 99;thing 2 2 0;thing 5 4 1;thing 3 6 0;"
+        + "likes 0 0 9;likes 0 1 7;likes 0 2 1");
+    Due.told(y, "25: hardly worth it", () -> y.plan(0), 1);
+    Due.is("48: yet it is", y.plays(0) > 0 ? 1 : 0, 1);
   }
 
   private static void planOfWhisky() {
@@ -251,6 +267,11 @@ final class ThoughtTest {
     Due.told(y, "30: slips that are held back are bought too", () -> y.takings(45), 90);
     y.purse(0, 999);
     Due.told(y, "30: three are in", () -> y.takings(45), 135);
+    EndsInFive z = Due.stall("slips 11;rule 2;thing 0 2 0;thing 0 4 0;buyer 999;likes 0 0 999;likes 0 1 45");
+    Due.told(z, "30: worth 94909, not 95000", () -> z.takings(95), 0);
+    Due.told(z, "31: nor there", z::bestPrice, 90);
+    z.likes(0, 1, 46);
+    Due.told(z, "30: worth 95000", () -> z.takings(95), 95 * 10);
     for (int bad : new int[] {0, -1, 100, MIN, MAX}) {
       Due.refused(x, "30: price " + bad, () -> x.takings(bad), -2);
     }
@@ -331,6 +352,7 @@ final class ThoughtTest {
     Due.told(x, "35: nothing is asked", () -> x.sure(60, 0), 0);
     Due.told(x, "35: one", () -> x.sure(60, 500001), 1);
     Due.told(x, "35: all", () -> x.sure(60, 1000000), 60);
+    Due.told(x, "35: of one", () -> x.sure(1, 1000000), 1);
     Due.told(x, "35: just that", () -> x.sure(2, 666666), 1);
     Due.told(x, "35: more than that", () -> x.sure(2, 666667), 2);
     for (int bad : new int[] {0, -1, 61, MIN, MAX}) {
@@ -422,6 +444,11 @@ final class ThoughtTest {
     }
     Due.told(x, "37: all twenty", () -> x.judge(1, 20), -1);
     Due.told(x, "37: forty", () -> x.judge(1, 40), 20);
+    x.slips(60);
+    Due.book(x, 0, 0, 60, 59, 1, 60);
+    Due.told(x, "37: the sixtieth, twice", () -> x.judge(0, 4), 3);
+    x.set(0, 3, 61);
+    Due.told(x, "37: there is no more", () -> x.judge(0, 4), 3);
   }
 
   private static void won() {
@@ -506,6 +533,8 @@ final class ThoughtTest {
   private static void chain() {
     EndsInFive x = Due.stall("slips 60;rule 2;thing 0 2 0;thing 4 4 5;thing 4 6 6;thing 5 8 0;thing 5 10 4;buyer 99");
     int[] due = {1, 11, -1, -1, -1};
+    x.likes(0, 0, 999);
+    Due.is("25: a plan ahead of the chains", x.plan(0) > 0 ? 1 : 0, 1);
     for (int t = 0; t < due.length; t++) {
       final int told = t;
       Due.told(x, "40: chain " + t, () -> x.chain(told), due[t]);

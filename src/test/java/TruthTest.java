@@ -118,7 +118,8 @@ final class TruthTest {
     x.fete(1000);
     Due.is("48: as long as the purse is good", x.plays(1) <= 2 ? 1 : 0, 1);
     Due.is("48: nothing to win", Due.stall("buyer 999").plays(0), 0);
-    Due.is("48: no purse", Due.stall("slips 1;buyer 9").plays(0), 0);
+    Due.is("48: no purse", Due.stall("slips 2;rule 2;thing 0 2 0;buyer 9;likes 0 0 99;out 1").plays(0), 0);
+    Due.is("48: the purse is just the price", Due.stall("slips 2;rule 2;thing 0 2 0;buyer 10;likes 0 0 99;out 1").plays(0), 1);
     for (int bad : new int[] {-1, 2, MIN, MAX}) {
       Due.refused(x, "48: buyer " + bad, () -> x.plays(bad), -2);
     }
@@ -234,17 +235,17 @@ final class TruthTest {
     EndsInFive x = Due.stall("thing 0 5 0");
     x.image();
     Due.read(x, "thing 2 10 0;thing 3 15 0;buyer 9;likes 0 0 4");
-    x.show(0, 0);
-    x.show(1, 1);
+    x.show(7, 0);
+    x.show(0, 1);
     x.show(2, 2);
     x.row(3, 4, 40);
     x.back();
-    Due.is("52: the thing that there is", x.holds(0), 10);
-    Due.is("52: the one there isn't", x.holds(1), -1);
+    Due.is("52: the thing that there is", x.holds(7), 10);
+    Due.is("52: the one there isn't", x.holds(0), -1);
     Due.is("52: nor that", x.holds(2), -1);
     Due.is("52: a row", x.holds(3), 4);
     Due.is("52: shelves that hold something", x.status(10), 2);
-    Due.is("52: no one likes it", x.says(0, 0), 0);
+    Due.is("52: no one likes it", x.says(7, 0), 0);
     x.buyer(5);
     Due.is("52: a new buyer likes nothing", x.thingOf(0, 10), 0);
     Due.is("52: a new thing in the old one's stead", x.thing(4, 20, 3), 1);

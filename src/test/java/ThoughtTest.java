@@ -562,6 +562,10 @@ final class ThoughtTest {
     Due.told(x, "40: the whisky itself", () -> x.chain(3), 1);
     Due.told(x, "40: two ahead of it, then the whisky", () -> x.chain(2), 3);
     Due.told(x, "40: two, a whisky and a whisky", () -> x.chain(5), 4);
+    x.buyer(9);
+    x.likes(0, 2, 999);
+    Due.is("25: a plan weighs more than can come about", x.plan(0) > 0 ? 1 : 0, 1);
+    Due.told(x, "40: and a chain doesn't take it over", () -> x.chain(2), 3);
     EndsInFive y = Due.stall("slips 4;rule 2;thing 4 2 9;thing 3 4 0");
     Due.told(y, "40: brought at once", () -> y.chain(0), 1);
     // The whisky brings the first tin; its slip is a blank that makes up the second go of two for the held one.

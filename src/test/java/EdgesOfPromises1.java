@@ -257,6 +257,13 @@ final class EdgesOfPromises1 {
       return x;
     };
     Edges.tells(last, "nothing is left to bring: NONE, and it isn't refused", x -> x.says(0, 3), -1);
+    Supplier<EndsInFive> won = () -> {
+      EndsInFive x = stall.get();
+      Edges.draw(x, 5);
+      return x;
+    };
+    Edges.tells(won, "a whisky that was won: what it would bring now", x -> x.says(0, 3), 3);
+    Edges.tells(won, "a tin that was brought", x -> x.says(2, 2), 1);
     Edges.tells(last, "a whisky that was won, as a bottle", x -> x.says(0, 1), 0);
     Edges.tells(last, "a whisky that was won, as a thing", x -> x.says(0, 0), 3996);
   }
@@ -275,6 +282,11 @@ final class EdgesOfPromises1 {
         Edges.draw(x, goes + 1);
       }
     }
+    EndsInFive brought = Due.stall("thing 3 5 0;thing 5 10 9;buyer 0");
+    Edges.draw(brought, 5);
+    brought.show(0, 1);
+    Edges.is("one that was won, as held: 18 goes less one", brought.says(0, 4), 17);
+    Edges.is("one that was won: ten of twenty less one", brought.says(0, 5), 9);
     for (int n = 2; n <= 60; n++) {
       EndsInFive x = Due.stall("slips " + n + ";rule 2;thing 5 2 9;buyer 0");
       x.show(0, 0);

@@ -244,6 +244,7 @@ final class EdgesOfTheTape {
     for (int rule = 2; rule <= 10; rule++) {
       Edges.is("rule", Edges.reads(NEW, "rule " + rule, 1).status(1), rule);
     }
+    Edges.is("what is out stays out, as by the call", Edges.reads(with("out 1;out 20"), "rule 3", 1).status(2), 18);
     Edges.reads(NEW, "rule 7;thing 0 7 0", 2);
     Edges.fault(NEW, "rule 7;thing 0 5 0", 15);
     Edges.fault(with("thing 0 5 0"), "rule 5", 0);

@@ -597,7 +597,7 @@ final class EdgesOfPromises2 {
       x.seed(seed);
       y.seed(seed);
       int goes = 1;
-      while (y.go(0) != 60) {
+      while (goes < 60 && y.go(0) != 60) {
         goes++;
       }
       Edges.is("till it is won", x.plays(0), goes);

@@ -342,7 +342,7 @@ public final class EndsInFive {
             return refuse(BAD);
         }
         thought.thinkOfAll(now, buyer);
-        return thought.valueBehind(0, now.standing());
+        return thought.valueNow();
     }
 
     public int till(int buyer) {
@@ -353,7 +353,7 @@ public final class EndsInFive {
         int standing = now.standing();
         int blanks = now.countIn() - Integer.bitCount(standing);
         for (int k = 0; k <= blanks; k++) {
-            if (thought.valueBehind(k, standing) == 0) {
+            if (!thought.isMarked(k, standing)) {
                 return k;
             }
         }
@@ -597,8 +597,7 @@ public final class EndsInFive {
         // One thought serves all goes: each go leads to a state that it has weighed already.
         thought.thinkOfAll(now, buyer);
         int goes = 0;
-        while (goes < MOST_SLIPS && now.purses[buyer] >= now.price
-                && thought.valueBehind(goes, now.standing()) > 0) {
+        while (goes < MOST_SLIPS && now.purses[buyer] >= now.price && thought.isMarked(goes, now.standing())) {
             now.pay(buyer, now.price);
             now.draw(now.slipByDraw(), buyer);
             goes++;
@@ -755,7 +754,7 @@ public final class EndsInFive {
 
     private int meanOfGoes(int buyer, int m) {
         thought.thinkOfGoes(now, buyer, m);
-        return thought.valueBehind(0, now.standing());
+        return thought.valueNow();
     }
 
     /** How sure it is that a slip wasn't in, if k of m were drawn and it was even before. */
@@ -1166,10 +1165,14 @@ public final class EndsInFive {
     /**
      * What comes of a stall in thought. A state is told by how many goes there were from now on and by
      * which things stand: as every go takes one slip, the blanks in the drum follow from these.
+     * A whole number for each state would be most of what an object takes: all but one layer keep a bit.
      */
     private static final class Thought {
-        /** What each state is worth, or whether it can come about: by goes, and by things. */
-        final int[] table = new int[(MOST_SLIPS + 1) * SETS];
+        private static final int BITS = 32;
+        /** What the states of one layer, behind as many goes, are worth: by things. */
+        final int[] values = new int[SETS];
+        /** A bit for each state, by goes, and by things: its value is above 0, or it can come about. */
+        final int[] marks = new int[(MOST_SLIPS + 1) * SETS / BITS];
         /** 1000 times how much the buyer likes each set of things. */
         final int[] joys = new int[SETS];
         int things = 0;
@@ -1186,9 +1189,27 @@ public final class EndsInFive {
             fill(stall, buyer, Math.min(m, stall.countIn()), 0);
         }
 
-        int valueBehind(int goes, int set) {
-            int place = goes * SETS + set;
-            return isWithin(goes, 0, MOST_SLIPS) && isWithin(set, 0, SETS - 1) ? table[place] : 0;
+        /** The value of how the stall is, once it has been thought of. */
+        int valueNow() {
+            return isSet(standing) ? values[standing] : 0;
+        }
+
+        boolean isMarked(int goes, int set) {
+            return hasState(goes, set) && (marks[(goes * SETS + set) / BITS] & 1 << set % BITS) != 0;
+        }
+
+        void mark(int goes, int set) {
+            if (hasState(goes, set)) {
+                marks[(goes * SETS + set) / BITS] |= 1 << set % BITS;
+            }
+        }
+
+        static boolean hasState(int goes, int set) {
+            return isWithin(goes, 0, MOST_SLIPS) && isSet(set);
+        }
+
+        static boolean isSet(int set) {
+            return isWithin(set, 0, SETS - 1);
         }
 
         void lookAt(Stall stall) {
@@ -1196,12 +1217,17 @@ public final class EndsInFive {
             standing = stall.standing();
             whiskies = stall.thingsUnder(WHISKY);
             bottles = stall.thingsUnder(BOTTLE);
+            for (int i = 0; i < values.length; i++) {
+                values[i] = 0;
+            }
+            for (int i = 0; i < marks.length; i++) {
+                marks[i] = 0;
+            }
         }
 
         void fill(Stall stall, int buyer, int depth, int price) {
             lookAt(stall);
             weigh(stall, buyer);
-            clear(depth, depth);
             int in = stall.countIn();
             for (int k = depth - 1; k >= 0; k--) {
                 fillLayer(k, in - k, stall.thingsReady(stall.goes + k, in - k), price);
@@ -1218,35 +1244,32 @@ public final class EndsInFive {
             }
         }
 
-        void clear(int firstLayer, int lastLayer) {
-            int end = Math.min((lastLayer + 1) * SETS, table.length);
-            for (int i = Math.max(0, firstLayer * SETS); i < end; i++) {
-                table[i] = 0;
-            }
-        }
-
+        /**
+         * From the values of one go later to those behind k goes. A set's value rests on its own and on those
+         * of lesser sets, one go later: so the greater come first.
+         */
         void fillLayer(int k, int in, int ready, int price) {
-            if (!isWithin(k, 0, MOST_SLIPS - 1)) {
-                return;
-            }
-            for (int set = 0; set <= standing; set++) {
+            for (int set = Math.min(standing, SETS - 1); set >= 0; set--) {
                 int blanks = in - Integer.bitCount(set);
                 if ((set & ~standing) == 0 && blanks >= 0) {
-                    table[k * SETS + set] = valueOf(set, set & ready, blanks, (k + 1) * SETS, price);
+                    values[set] = valueOf(set, set & ready, blanks, price);
+                    if (values[set] > 0) {
+                        mark(k, set);
+                    }
                 }
             }
         }
 
-        int valueOf(int set, int can, int blanks, int next, int price) {
+        int valueOf(int set, int can, int blanks, int price) {
             int count = blanks + Integer.bitCount(can);
-            if (count <= 0 || !isWithin(next, 0, table.length - SETS) || !isWithin(set, 0, SETS - 1)) {
+            if (count <= 0 || !isSet(set)) {
                 return 0;
             }
-            long sum = (long) blanks * table[next + set];
+            long sum = (long) blanks * values[set];
             for (int t = 0; t < things; t++) {
                 if ((can & 1 << t) != 0) {
                     int bits = wonWith(t, set);
-                    sum += joys[bits] + table[next + (set & ~bits)];
+                    sum += joys[bits] + values[set & ~bits];
                 }
             }
             long value = sum / count - 1000L * price;
@@ -1263,14 +1286,13 @@ public final class EndsInFive {
             return bit | brought & -brought;
         }
 
-        /** The fewest goes behind which a thing can be won; marks in the table what can come about. */
+        /** The fewest goes behind which a thing can be won; marks what can come about. */
         int fewestGoes(Stall stall, int thing) {
             lookAt(stall);
             if (!stall.stands(thing)) {
                 return 0;
             }
-            clear(0, MOST_CHAIN);
-            table[standing] = 1;
+            mark(0, standing);
             int in = stall.countIn();
             for (int k = 0; k < MOST_CHAIN; k++) {
                 if (markNext(k, in - k, stall.thingsReady(stall.goes + k, in - k), 1 << thing)) {
@@ -1283,7 +1305,7 @@ public final class EndsInFive {
         /** Marks what can come about behind one go more; whether the wanted thing can be won by it. */
         boolean markNext(int k, int in, int ready, int wanted) {
             for (int set = 0; set <= standing; set++) {
-                if (valueBehind(k, set) == 0) {
+                if (!isMarked(k, set)) {
                     continue;
                 }
                 if (in > Integer.bitCount(set)) {
@@ -1300,12 +1322,6 @@ public final class EndsInFive {
                 }
             }
             return false;
-        }
-
-        void mark(int k, int set) {
-            if (isWithin(k, 0, MOST_SLIPS) && isWithin(set, 0, SETS - 1)) {
-                table[k * SETS + set] = 1;
-            }
         }
     }
 

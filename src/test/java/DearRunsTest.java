@@ -1,13 +1,18 @@
 import java.lang.management.ManagementFactory;
+import java.lang.reflect.Array;
+import java.lang.reflect.Field;
+import java.lang.reflect.Modifier;
 import java.util.function.IntUnaryOperator;
 
-/** 512 calls of the dear ones on the greatest stalls: they end in good time, and make next to nothing. */
+/** 512 calls of the dear ones on the greatest stalls: they end in good time, and find place in the one room. */
 final class DearRunsTest {
   private static final int CALLS = 512;
   private static final long MOST_SECONDS = 60;
-  /** What one object may take, and what its 512 calls may: bytes, as this machine counts them. */
-  private static final long MOST_OF_NEW = 200_000;
+  /** What the 512 calls of one object may take: bytes, as this machine counts them. */
   private static final long MOST_OF_CALLS = 20_000;
+  /** The one room of all calls of a run: even a run of nothing but new objects must find place in it. */
+  private static final long OBJECTS_OF_ROOM = 600_000;
+  private static final long ELEMENTS_OF_ROOM = 7_300_000;
 
   private DearRunsTest() {
   }
@@ -56,7 +61,7 @@ final class DearRunsTest {
     return x.plays(buyer);
   }
 
-  public static void main(String[] args) {
+  public static void main(String[] args) throws IllegalAccessException {
     for (int kind : new int[] {-1, 0, 3, 5}) {
       EndsInFive x = great(kind);
       String of = " of kind " + kind;
@@ -98,13 +103,42 @@ final class DearRunsTest {
     run("row", x, i -> x.row(i & 7, i % 5, 40), 512);
   }
 
-  private static void makesLittle() {
+  private static void makesLittle() throws IllegalAccessException {
     EndsInFive first = new EndsInFive();
-    long before = made();
     EndsInFive second = new EndsInFive();
-    long bytes = made() - before;
-    Due.is("a new object is small", bytes <= MOST_OF_NEW ? 0 : bytes, 0);
+    long[] room = new long[2];
+    measure(second, room);
+    Due.is("a new object has objects and arrays", room[0] > 1 ? 0 : room[0], 0);
+    Due.is("objects and arrays of a new object", CALLS * room[0] <= OBJECTS_OF_ROOM ? 0 : room[0], 0);
+    Due.is("fields and elements of a new object", CALLS * room[1] <= ELEMENTS_OF_ROOM ? 0 : room[1], 0);
     Due.is("objects share nothing", first.slips(7) + second.slips(8), 40);
     Due.is("the first has its own", first.status(0), 7);
+  }
+
+  /** Adds the objects and arrays that one holds, and their fields and elements; the class makes no rings. */
+  private static void measure(Object one, long[] room) throws IllegalAccessException {
+    if (one == null) {
+      return;
+    }
+    room[0]++;
+    Class<?> type = one.getClass();
+    if (type.isArray()) {
+      int length = Array.getLength(one);
+      room[1] += length;
+      for (int i = 0; i < length && !type.getComponentType().isPrimitive(); i++) {
+        measure(Array.get(one, i), room);
+      }
+      return;
+    }
+    for (Field field : type.getDeclaredFields()) {
+      if (Modifier.isStatic(field.getModifiers())) {
+        continue;
+      }
+      room[1]++;
+      if (!field.getType().isPrimitive()) {
+        field.setAccessible(true);
+        measure(field.get(one), room);
+      }
+    }
   }
 }
